@@ -1,16 +1,40 @@
 /** Counts the answers that are not as due, prints them, and ends a test. */
 final class Checks {
+    private static final long MOST_SECONDS = 300;
+
     private static int made = 0;
     private static int wrong = 0;
+    private static String sentence = "";
+
+    static {
+        watch();
+    }
 
     private Checks() {
+    }
+
+    /** Tries one sentence of the document; a call that throws breaks it too, and the next sentence is still tried. */
+    static void sentence(String text, Runnable test) {
+        int madeBefore = made;
+        int wrongBefore = wrong;
+        sentence = text;
+        try {
+            test.run();
+        } catch (RuntimeException thrown) {
+            due("a call threw " + thrown + " at " + thrown.getStackTrace()[0], true, false);
+        }
+        if (made == madeBefore) {
+            due("no answer was looked at", true, false);
+        }
+        System.out.println((wrong == wrongBefore ? "holds: " : "BROKEN: ") + text);
+        sentence = "";
     }
 
     static void due(String what, long got, long want) {
         made++;
         if (got != want) {
             wrong++;
-            System.out.println(what + " answered " + got + ", due is " + want);
+            System.out.println(sentence + " | " + what + " answered " + got + ", due is " + want);
         }
     }
 
@@ -25,43 +49,18 @@ final class Checks {
         }
     }
 
-    /** A new object that holds these bytes. */
-    static StreamSums holding(byte[] bytes) {
-        StreamSums sums = new StreamSums();
-        writeAll(sums, bytes);
-        return sums;
-    }
-
-    static void writeAll(StreamSums sums, byte[] bytes) {
-        for (int k = 0; k < bytes.length; k += 8) {
-            int n = Math.min(8, bytes.length - k);
-            long eight = 0;
-            for (int i = 0; i < 8; i++) {
-                eight = eight << 8 | (i < n ? bytes[k + i] & 255 : 0);
-            }
-            due("write of bytes " + k + " and on", sums.write(eight, n), true);
-        }
-    }
-
-    static void holds(String when, StreamSums sums, byte[] bytes) {
-        due(when + ": size()", sums.size(), bytes.length);
-        for (int k = 0; k < bytes.length; k++) {
-            if (sums.byteAt(k) != (bytes[k] & 255)) {
-                due(when + ": byteAt(" + k + ")", sums.byteAt(k), bytes[k] & 255);
+    /** A call that does not end must fail the test too, not hold it up for ever. */
+    private static void watch() {
+        Thread watcher = new Thread(() -> {
+            try {
+                Thread.sleep(MOST_SECONDS * 1000);
+            } catch (InterruptedException interrupted) {
                 return;
             }
-        }
-        due(when + ": byteAt(" + bytes.length + ")", sums.byteAt(bytes.length), -1);
-    }
-
-    static byte[] ascii(String text) {
-        return text.getBytes(java.nio.charset.StandardCharsets.US_ASCII);
-    }
-
-    /** Bytes without a plain pattern, the same at each run, many of them above 127. */
-    static byte[] mixedBytes(int n, long seed) {
-        byte[] bytes = new byte[n];
-        new java.util.Random(seed).nextBytes(bytes);
-        return bytes;
+            System.out.println(sentence + " | no end after " + MOST_SECONDS + " seconds");
+            Runtime.getRuntime().halt(1);
+        });
+        watcher.setDaemon(true);
+        watcher.start();
     }
 }

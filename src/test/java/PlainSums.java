@@ -103,15 +103,20 @@ final class PlainSums {
         return rotated(cut(BigInteger.valueOf(x), 32), 17, 32).add(big("2726488792")).intValue();
     }
 
-    /** A register after 8 * n steps, by tables of what each single bit becomes, each twice the way of the last. */
+    /** A register after 8 * n steps, one after the other. */
+    static int stepped(int register, int n) {
+        long moved = register & 4294967295L;
+        for (int i = 0; i < 8 * n; i++) {
+            moved = step(moved, 0);
+        }
+        return (int) moved;
+    }
+
+    /** The same for any n without a sign, by tables of what each single bit becomes, each twice the way of the last. */
     static int movedOn(int register, long n) {
         int[] way = new int[32];
         for (int bit = 0; bit < 32; bit++) {
-            long moved = 1L << bit;
-            for (int i = 0; i < 8; i++) {
-                moved = step(moved, 0);
-            }
-            way[bit] = (int) moved;
+            way[bit] = stepped(1 << bit, 1);
         }
         int result = register;
         for (int i = 0; i < 64; i++) {
