@@ -68,7 +68,7 @@ public final class StreamSums {
             return false;
         }
         // The row repeats itself every m bytes from here on, so each byte is the one m places before it.
-        for (int i = 0; i < more; i++) {
+        for (long i = 0; i < more; i++) {
             append(byteAt(count - m));
         }
         return true;

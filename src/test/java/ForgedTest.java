@@ -12,7 +12,8 @@ public final class ForgedTest {
         Checks.sentence("Promise 16: would make their POLYNOMIAL SUM this (the row is full)",
             ForgedTest::forgedOfFull);
         Checks.sentence("Promise 16: would make (it appends nothing)", ForgedTest::forgedChangesNothing);
-        Checks.sentence("Promise 17: The four bytes .. put in place of those at place at .. at + 3", ForgedTest::mended);
+        Checks.sentence("Promise 17: The four bytes .. put in place of those at place at .. at + 3",
+            ForgedTest::mended);
         Checks.sentence("Promise 17: at place at .. at + 3 (the first four, the last four, the only four)",
             ForgedTest::mendedAtTheEnds);
         Checks.sentence("Promise 17: would make the POLYNOMIAL SUM of all bytes this (what it is already)",
@@ -129,12 +130,11 @@ public final class ForgedTest {
     }
 
     private static void noFourPastAnInt() {
-        for (int n : new int[] {0, 4, 40, MOST}) {
+        for (int n : new int[] {0, 40}) {
             Tried tried = Tried.ofSize(n);
-            for (int at = HIGH - 5; at < HIGH; at++) {
+            for (int at : new int[] {HIGH - 4, HIGH - 3, HIGH - 2, HIGH - 1, HIGH}) {
                 tried.hasNoFourAt(at, 7);
             }
-            tried.hasNoFourAt(HIGH, 7);
             tried.holds("after no four past an int's end");
         }
     }

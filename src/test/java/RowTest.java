@@ -84,7 +84,7 @@ public final class RowTest {
         tried.takesAgain(2, MOST / 2 - 1);
         tried.holds("full once more");
         tried.begin(3, 4L);
-        tried.begin(3, 4L);
+        tried.begin(5, 6L);
         tried.holds("begun twice");
         tried.goesOn("begun twice");
     }
