@@ -26,7 +26,12 @@ public final class FaceTest {
         constructor();
         methods();
         fields();
-        forbiddenWords();
+        String code = Files.readString(Path.of("src/main/java/StreamSums.java"))
+            .replaceAll("(?s)/\\*.*?\\*/", "").replaceAll("//[^\n]*", "");
+        forbiddenWords(code);
+        noLibrary(code);
+        objectsOnlyInTheConstructor(code);
+        shortMethods(code);
         Checks.end();
     }
 
@@ -69,13 +74,47 @@ public final class FaceTest {
         }
     }
 
-    private static void forbiddenWords() throws Exception {
-        String code = Files.readString(Path.of("src/main/java/StreamSums.java"))
-            .replaceAll("(?s)/\\*.*?\\*/", "").replaceAll("//[^\n]*", "");
+    private static void forbiddenWords(String code) {
         Matcher found = Pattern.compile("\\b(throw|throws|try|catch|synchronized|assert|import|package|static\\s*\\{"
             + "|\\w+Exact|System\\.(?!arraycopy)\\w+|Thread|Random)|->|::").matcher(code);
         while (found.find()) {
             Checks.due("LANGUAGE.md rules out: " + found.group(), true, false);
         }
+    }
+
+    /** The class uses none of what LANGUAGE.md lists, so that no name of a class may stand in it but its own. */
+    private static void noLibrary(String code) {
+        Matcher name = Pattern.compile("\\b[A-Z]\\w*[a-z]\\w*|\"").matcher(code);
+        while (name.find()) {
+            Checks.due("a name of the library or a text: " + name.group(), name.group().equals("StreamSums"), true);
+        }
+        Checks.due("classes inside", StreamSums.class.getDeclaredClasses().length, 0);
+    }
+
+    private static void objectsOnlyInTheConstructor(String code) {
+        String constructor = methodsOf(code).get(0);
+        Checks.due("the first method is the constructor", constructor.contains("public StreamSums()"), true);
+        Checks.due("arrays that the constructor makes", constructor.split("\\bnew\\b", -1).length - 1, 2);
+        Checks.due("arrays and objects that are made", code.split("\\bnew\\b", -1).length - 1, 2);
+    }
+
+    private static void shortMethods(String code) {
+        for (String method : methodsOf(code)) {
+            String head = method.strip().split("\\{")[0];
+            Checks.due(head + "has at most 60 lines", method.strip().lines().count() <= 60, true);
+            Checks.due(head + "has at most 7 parameters", head.split(",").length <= 7, true);
+        }
+        Checks.due("methods that were looked at, and the constructor", methodsOf(code).size(),
+            StreamSums.class.getDeclaredMethods().length + 1);
+    }
+
+    /** From each head, which is indented by four, to the brace that is. */
+    private static List<String> methodsOf(String code) {
+        List<String> methods = new ArrayList<>();
+        Matcher method = Pattern.compile("(?ms)^    (?:public|private) [^;=]*?\\{$.*?^    \\}$").matcher(code);
+        while (method.find()) {
+            methods.add(method.group());
+        }
+        return methods;
     }
 }
